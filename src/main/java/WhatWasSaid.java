@@ -133,7 +133,7 @@ public final class WhatWasSaid {
     }
 
     public int told(int writer, int bits) {
-        if (writer != NOBODY && !desk.has(writer) || bits < 0 || bits >= 1 << meeting.size()) {
+        if ((writer != NOBODY && !desk.has(writer)) || bits < 0 || bits >= 1 << meeting.size()) {
             return BAD;
         }
         int number = archive.open(writer);
@@ -252,12 +252,10 @@ public final class WhatWasSaid {
             return Long.MIN_VALUE;
         }
         long above = prior * archive.chanceIfSaid(saying, desk);
-        if (above == 0) {
-            return part;
-        }
         long below = above + (100 - prior) * archive.chanceIfNot(saying);
         long common = commonDivisor(above, below);
-        if (common == 0) {
+        // 0 by 1 stands for 0 by 0 as well, and then the part's number is the part.
+        if (above == 0 || common == 0) {
             return part;
         }
         return part == 0 ? above / common : below / common;
@@ -342,7 +340,7 @@ public final class WhatWasSaid {
     }
 
     public int keep(int shelf, int body) {
-        if (!isShelf(shelf) || body != Shelf.NO_BODY && !acts.has(body)) {
+        if (!isShelf(shelf) || (body != Shelf.NO_BODY && !acts.has(body))) {
             return BAD;
         }
         shelves[shelf].holdBody(body);
@@ -451,6 +449,7 @@ public final class WhatWasSaid {
     private static long commonDivisor(long one, long other) {
         long big = one;
         long small = other;
+        // Two longs need some ninety steps at most.
         for (int step = 0; step < 1000 && small != 0; step++) {
             long rest = big % small;
             big = small;
@@ -1332,7 +1331,7 @@ public final class WhatWasSaid {
             if (inOne < 0 || inOther < 0 || nextInOne < 0 || nextInOther < 0) {
                 return false;
             }
-            return inOne < nextInOne != inOther < nextInOther;
+            return (inOne < nextInOne) != (inOther < nextInOther);
         }
 
         /** The i-th saying of the order by most papers; BAD, if there is none such. */

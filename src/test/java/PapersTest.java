@@ -168,7 +168,9 @@ public final class PapersTest {
         check.due("added", x.page(0, 403), 1);
         check.due("its sort", x.page(0, 201), 1);
         check.due("its length", x.page(0, 202), 7);
-        check.due("it has it", x.add(0, 1, 0), -1);
+        for (int saying = 0; saying < 4; saying++) {
+            check.due("it has " + saying, x.add(0, saying, 0), -1);
+        }
         x.told(-1, 1);
         int[][] bad = {{-1, 1, 0}, {2, 1, 0}, {1, -1, 0}, {1, 4, 0}, {1, 1, -1}, {1, 1, 2}};
         for (int[] call : bad) {
@@ -219,6 +221,9 @@ public final class PapersTest {
         check.due("four times", x.page(0, 102), 24);
         x.mend(2, 0, 5);
         check.due("by the one who it is now", x.read(0, 5), 1);
+        x.mend(1, 0, 0);
+        check.due("by 0", x.read(0, 0), 0);
+        check.due("by 0 twice", x.page(0, 102), 48);
     }
 
     private static void readAtMost() {

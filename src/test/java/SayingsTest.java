@@ -11,6 +11,7 @@ public final class SayingsTest {
         mend();
         of();
         undoAndRedo();
+        changesOfManySayings();
         fortyChanges();
         check.end();
     }
@@ -64,6 +65,7 @@ public final class SayingsTest {
         check.due("on", x.of(0, 2), 7);
         check.due("long", x.of(0, 3), 30);
         check.due("minute of the second", x.of(1, 4), 30);
+        check.due("no more than two came", x.count(0), 2);
         check.due("the third", x.sayings(2, 9, 1), 1);
         check.due("who of the third", x.of(2, 0), 5);
         check.due("long of the third", x.of(2, 3), 3);
@@ -184,7 +186,49 @@ public final class SayingsTest {
         check.due("what may be undone", x.count(4), 3);
     }
 
+    private static void changesOfManySayings() {
+        WhatWasSaid x = new WhatWasSaid();
+        x.saying(0, 1);
+        x.saying(10, 102);
+        x.saying(20, 203);
+        x.mend(2, 0, 9);
+        x.mend(1, 1, 3);
+        x.mend(0, 2, 7);
+        x.mend(1, 3, 30);
+        int[][] places = {{1, 3, 2}, {0, 2, 0}, {1, 1, 0}, {2, 0, 2}};
+        int[] after = {30, 7, 3, 9};
+        for (int[] place : places) {
+            x.undo();
+            check.due("undone", x.of(place[0], place[1]), place[2]);
+        }
+        for (int i = 3; i >= 0; i--) {
+            x.redo();
+            check.due("done again", x.of(places[i][0], places[i][1]), after[i]);
+        }
+    }
+
     private static void fortyChanges() {
+        WhatWasSaid x = new WhatWasSaid();
+        x.saying(0, 1);
+        x.saying(0, 1);
+        for (int i = 0; i < 43; i++) {
+            x.mend(i % 2, 3, 2 + i % 29);
+        }
+        for (int i = 42; i >= 3; i--) {
+            check.due("ahead of undoing " + i, x.of(i % 2, 3), 2 + i % 29);
+            check.due("undo " + i, x.undo(), i - 3);
+        }
+        check.due("undo the fourth", x.undo(), -5);
+        check.due("the first of all stays", x.of(0, 3), 4);
+        check.due("the second stays", x.of(1, 3), 3);
+        for (int i = 3; i <= 42; i++) {
+            check.due("redo " + i, x.redo(), 42 - i);
+            check.due("behind doing again " + i, x.of(i % 2, 3), 2 + i % 29);
+        }
+        fortyAndOneChanges();
+    }
+
+    private static void fortyAndOneChanges() {
         WhatWasSaid x = new WhatWasSaid();
         x.saying(0, 1);
         for (int i = 0; i < 41; i++) {

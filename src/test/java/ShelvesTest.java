@@ -57,6 +57,13 @@ public final class ShelvesTest {
         check.due("no place", x.put(0, 0, 1), -13);
         check.due("anew", x.row(0, 0, 60), 1);
         check.due("0 again", x.element(0, 5), 0);
+        for (int i = 0; i < 60; i++) {
+            x.put(0, i, 9);
+        }
+        x.row(0, 3, 60);
+        for (int i = 0; i < 60; i++) {
+            check.due("0 again at " + i, x.element(0, i), 0);
+        }
     }
 
     private static void put() {

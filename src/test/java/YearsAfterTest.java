@@ -121,6 +121,9 @@ public final class YearsAfterTest {
         paper(y, 0, 1);
         paper(y, 5, 2, 3);
         dueOrder("ahead of most that are left", y, 5, 0, 2, 1, 3);
+        y.strike(0, 0);
+        y.add(0, 0, 1);
+        dueOrder("a paper in another order", y, 5, 1, 2, 0, 3);
         WhatWasSaid z = meeting(16);
         paper(z, 15, 14, 13, 12, 11, 10, 9, 8, 7, 6, 5, 4, 3, 2, 1, 0);
         dueOrder("all sixteen", z, 15, 14, 13, 12, 11, 10, 9, 8, 7, 6, 5, 4, 3, 2, 1, 0);
@@ -147,6 +150,16 @@ public final class YearsAfterTest {
         x.told(1, 0);
         dueSaid("two have it not", x, 0, 50, 1, 11);
         dueSaid("one who would always", x, 2, 50, 0, 1);
+        WhatWasSaid y = meeting(1);
+        Check.write(y, "80", 0, 0);
+        y.told(0, 1);
+        dueSaid("the first paper has it", y, 0, 1, 1, 1);
+        y.told(0, 0);
+        dueSaid("one has it and one not", y, 0, 1, 1, 1);
+        WhatWasSaid z = meeting(1);
+        Check.write(z, "0", 0, 0);
+        z.told(0, 1);
+        dueSaid("the first paper has it who never would", z, 0, 99, 0, 1);
         x.told(1, 1);
         dueSaid("one has it", x, 0, 1, 1, 1);
         x.told(0, 4);
@@ -192,6 +205,19 @@ public final class YearsAfterTest {
         check.due("by the laws, not by whom", x.whose(2), 0);
         Check.write(x, "i=0?90;20", 0, 0);
         check.due("of like ones the first", x.whose(0), 0);
+        Check.write(x, "i=0?91;20", 0, 0);
+        check.due("a little more likely", x.whose(0), 3);
+        WhatWasSaid v = meeting(16);
+        v.told(-1, 0);
+        Check.write(v, "1", 0, 0);
+        Check.write(v, "i=7?100", 0, 0);
+        Check.write(v, "0", 0, 0);
+        check.due("of none at all", v.whose(0), 2);
+        WhatWasSaid u = meeting(4);
+        u.told(-1, 15);
+        Check.write(u, "i=0?100;i=1?100;i=2?10;10", 0, 0);
+        Check.write(u, "33", 0, 0);
+        check.due("1 of 100 against 1.18", u.whose(0), 1);
         WhatWasSaid y = meeting(2);
         y.told(-1, 3);
         Check.write(y, "i=0?100;0", 0, 0);
@@ -248,6 +274,10 @@ public final class YearsAfterTest {
         Check.write(y, "40", 0, 0);
         Check.write(y, "40", 0, 0);
         check.due("of like ones the first", y.learnt(1, 0), 0);
+        Check.write(y, "60", 0, 0);
+        Check.write(y, "50", 0, 0);
+        check.due("the least of four", y.learnt(1, 0), 2);
+        check.due("its off", y.learnt(1, 1), 40);
     }
 
     private static void asleep() {
@@ -306,6 +336,21 @@ public final class YearsAfterTest {
         Check.write(z, "100", 0, 0);
         Check.write(z, "90", 0, 0);
         check.due("of like ones the least", z.ask(0), 2);
+        WhatWasSaid w = meeting(2);
+        Check.write(w, "0", 0, 0);
+        Check.write(w, "i=0?100;0", 0, 0);
+        Check.write(w, "i=1?100;0", 0, 0);
+        check.due("1 and 2", w.ask(0), 12);
+        check.due("their sum", w.ask(1), 20000);
+        Check.write(w, "i=1?100;10", 0, 0);
+        check.due("still 1 and 2", w.ask(0), 12);
+        WhatWasSaid v = meeting(1);
+        Check.write(v, "0", 0, 0);
+        Check.write(v, "0", 0, 0);
+        Check.write(v, "30", 0, 0);
+        Check.write(v, "40", 0, 0);
+        check.due("2 and 3", v.ask(0), 23);
+        check.due("their sum", v.ask(1), 5800);
     }
 
     private static void years() {

@@ -53,7 +53,7 @@ public final class WhatWasSaid {
     }
 
     public int sayings(int shelf, int i, int n) {
-        if (!isShelf(shelf) || i < 0 || n < 1 || n > MOST_FROM_ROW) {
+        if (!isShelf(shelf) || n < 1 || n > MOST_FROM_ROW) {
             return BAD;
         }
         Shelf from = shelves[shelf];
@@ -424,7 +424,7 @@ public final class WhatWasSaid {
     }
 
     private boolean comesFrom(Shelf from, long place) {
-        if (place + 4 > from.length()) {
+        if (place < 0 || place + 4 > from.length()) {
             return false;
         }
         int i = (int) place;

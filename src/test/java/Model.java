@@ -187,7 +187,7 @@ final class Model {
     }
 
     int sayings(int shelf, int i, int n) {
-        if (!in(shelf, 0, 5) || i < 0 || !in(n, 1, 15)) {
+        if (!in(shelf, 0, 5) || !in(n, 1, 15)) {
             return BAD;
         }
         if (shelves[shelf] != null && !(shelves[shelf] instanceof byte[])) {

@@ -7,6 +7,7 @@ public final class SayingsTest {
         saying();
         sayings();
         sayingsEnd();
+        sayingsFromPlacesNotThere();
         sayingsRefused();
         mend();
         of();
@@ -100,13 +101,38 @@ public final class SayingsTest {
         check.due("a row of no elements", x.sayings(4, 0, 1), 0);
     }
 
+    /** No range is told of the place: where there is none, the row has ended, and none came. */
+    private static void sayingsFromPlacesNotThere() {
+        WhatWasSaid x = new WhatWasSaid();
+        fill(x, 1, 0, 1, 1, 1, 1, 2, 2, 2, 2);
+        x.row(2, 0, 0);
+        x.row(3, 3, 8);
+        x.body(0);
+        x.keep(4, 0);
+        int[] places = {-1, -2, -3, -4, -5, -8, -57, -60, 5, 8, 9, 60, Integer.MIN_VALUE, Integer.MIN_VALUE + 3,
+            Integer.MAX_VALUE - 3, Integer.MAX_VALUE};
+        for (int place : places) {
+            check.due("a missing row from " + place, x.sayings(0, place, 1), 0);
+            check.due("a row of bytes from " + place, x.sayings(1, place, 1), 0);
+            check.due("as many as may be from " + place, x.sayings(1, place, 15), 0);
+            check.due("a row of no elements from " + place, x.sayings(2, place, 15), 0);
+            check.due("a row of longs from " + place, x.sayings(3, place, 1), -12);
+            check.due("an entry from " + place, x.sayings(4, place, 1), -12);
+            check.due("n 0 from " + place, x.sayings(1, place, 0), -1);
+            check.due("n 16 from " + place, x.sayings(1, place, 16), -1);
+            check.due("shelf 6 from " + place, x.sayings(6, place, 1), -1);
+            check.due("shelf -1 from " + place, x.sayings(-1, place, 1), -1);
+        }
+        check.due("none came", x.count(0), 0);
+        check.due("the last four that is there", x.sayings(1, 4, 1), 1);
+    }
+
     private static void sayingsRefused() {
         WhatWasSaid x = new WhatWasSaid();
         check.due("shelf -1", x.sayings(-1, 0, 1), -1);
         check.due("shelf 6", x.sayings(6, 0, 1), -1);
         check.due("n 0", x.sayings(0, 0, 0), -1);
         check.due("n 16", x.sayings(0, 0, 16), -1);
-        check.due("i -1", x.sayings(0, -1, 1), -1);
         for (int sort = 1; sort <= 4; sort++) {
             x.row(0, sort, 4);
             check.due("a row of sort " + sort, x.sayings(0, 0, 1), -12);

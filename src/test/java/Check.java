@@ -2,12 +2,22 @@
 final class Check {
     private int wrong = 0;
     private int asked = 0;
+    private String heading = "";
+
+    /** What is printed ahead of each answer that is not as due, from now on. */
+    void under(String newHeading) {
+        heading = newHeading;
+    }
+
+    int asked() {
+        return asked;
+    }
 
     void due(String call, long got, long want) {
         asked++;
         if (got != want) {
             wrong++;
-            System.out.println(call + " answered " + got + ", due is " + want);
+            System.out.println(heading + call + " answered " + got + ", due is " + want);
         }
     }
 
@@ -15,7 +25,7 @@ final class Check {
         asked++;
         if (!truth) {
             wrong++;
-            System.out.println("does not hold: " + what);
+            System.out.println(heading + "does not hold: " + what);
         }
     }
 
@@ -56,5 +66,13 @@ final class Check {
             row = row * 16 + x.page(paper, 100 * (1 + place));
         }
         return row;
+    }
+
+    /** A paper of nobody's with these sayings in this order. */
+    static void paper(WhatWasSaid x, int... row) {
+        int paper = x.told(-1, 0);
+        for (int i = 0; i < row.length; i++) {
+            x.add(paper, row[i], i);
+        }
     }
 }

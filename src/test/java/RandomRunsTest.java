@@ -110,7 +110,7 @@ public final class RandomRunsTest {
                 int shelf = in(0, 5);
                 int i = random.nextBoolean() ? 0 : in(0, 20);
                 int n = in(1, 15);
-                if (random.nextInt(3) > 0) {
+                if (random.nextInt(3) > 0 && calls < 500) {
                     fillWithSayings(shelf);
                 }
                 due("sayings(" + shelf + ", " + i + ", " + n + ")", x.sayings(shelf, i, n), m.sayings(shelf, i, n));

@@ -37,7 +37,7 @@ public final class RoomTest {
         for (int i = 0; i < 10; i++) {
             sum += i % 2 == 0 ? x.take(i % 4, i) : x.told(i % 4, 1023 << i % 6);
         }
-        for (int i = 0; i < 60; i++) {
+        for (int i = 0; i < 8; i++) {
             sum += x.order(i % 16) + x.said(i % 16, 50, 0) + x.whose(i % 10) + x.learnt(1023, 0) + x.ask(0);
             sum += x.fight(i, 0) + x.asleep(i % 10, 1) + x.years(i % 4, i) + x.only() + x.sure(i % 16, 1);
             sum += x.mend(i % 16, 3, 1 + i % 30) + x.undo() + x.redo() + x.body(i % 8) + x.act(i % 50, 3, i);

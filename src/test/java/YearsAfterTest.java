@@ -27,14 +27,6 @@ public final class YearsAfterTest {
         return x;
     }
 
-    /** A paper of nobody's with these sayings in this order. */
-    private static void paper(WhatWasSaid x, int... row) {
-        int paper = x.told(-1, 0);
-        for (int i = 0; i < row.length; i++) {
-            x.add(paper, row[i], i);
-        }
-    }
-
     private static void sure() {
         WhatWasSaid x = meeting(3);
         Check.write(x, "1", 0, 0);
@@ -69,10 +61,10 @@ public final class YearsAfterTest {
 
     private static void fight() {
         WhatWasSaid x = meeting(16);
-        paper(x, 0, 1, 2, 3);
-        paper(x, 3, 2, 5, 1, 0);
-        paper(x, 1, 15, 2, 14);
-        paper(x, 14, 15);
+        Check.paper(x, 0, 1, 2, 3);
+        Check.paper(x, 3, 2, 5, 1, 0);
+        Check.paper(x, 1, 15, 2, 14);
+        Check.paper(x, 14, 15);
         check.due("all pairs", x.fight(1, 0), 6);
         check.due("the first", x.fight(1, 1), 1);
         check.due("the other way round", x.fight(10, 0), 6);
@@ -100,32 +92,32 @@ public final class YearsAfterTest {
     private static void order() {
         WhatWasSaid x = meeting(6);
         dueOrder("no papers", x);
-        paper(x, 3, 1, 2);
+        Check.paper(x, 3, 1, 2);
         dueOrder("one paper", x, 3, 1, 2);
-        paper(x, 1, 2, 3);
+        Check.paper(x, 1, 2, 3);
         dueOrder("two papers", x, 1, 2, 3);
-        paper(x, 2, 3, 1);
+        Check.paper(x, 2, 3, 1);
         dueOrder("a ring", x, 1, 2, 3);
-        paper(x, 2, 3, 1);
+        Check.paper(x, 2, 3, 1);
         dueOrder("by most", x, 2, 3, 1);
-        paper(x, 5);
+        Check.paper(x, 5);
         dueOrder("one that is with none", x, 2, 3, 1, 5);
     }
 
     private static void orderOfLikeOnes() {
         WhatWasSaid x = meeting(6);
-        paper(x, 4, 5);
-        paper(x, 3, 2);
+        Check.paper(x, 4, 5);
+        Check.paper(x, 3, 2);
         dueOrder("of like ones the least", x, 3, 4, 2, 5);
         WhatWasSaid y = meeting(6);
-        paper(y, 0, 1);
-        paper(y, 5, 2, 3);
+        Check.paper(y, 0, 1);
+        Check.paper(y, 5, 2, 3);
         dueOrder("ahead of most that are left", y, 5, 0, 2, 1, 3);
         y.strike(0, 0);
         y.add(0, 0, 1);
         dueOrder("a paper in another order", y, 5, 1, 2, 0, 3);
         WhatWasSaid z = meeting(16);
-        paper(z, 15, 14, 13, 12, 11, 10, 9, 8, 7, 6, 5, 4, 3, 2, 1, 0);
+        Check.paper(z, 15, 14, 13, 12, 11, 10, 9, 8, 7, 6, 5, 4, 3, 2, 1, 0);
         dueOrder("all sixteen", z, 15, 14, 13, 12, 11, 10, 9, 8, 7, 6, 5, 4, 3, 2, 1, 0);
         check.due("far behind", z.order(Integer.MAX_VALUE), -1);
     }

@@ -196,6 +196,13 @@ final class PaperEdges {
         }
         WhatWasSaid y = by(Edges.said(2, 101), "100", 9, 5);
         e.due("without the habit", y.page(0, 101), 2);
+        WhatWasSaid z = new WhatWasSaid();
+        for (int i = 0; i < 16; i++) {
+            z.saying(2, 101);
+        }
+        by(z, "100", 9, 2);
+        e.due("the first of sixteen", z.page(0, 101), 0);
+        e.due("the last of sixteen", z.page(0, 1601), 0);
     }
 
     private void last() {

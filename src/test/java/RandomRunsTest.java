@@ -34,11 +34,11 @@ public final class RandomRunsTest {
             one(0);
         }
         int writers = random.nextInt(6);
-        for (int i = 0; i < writers; i++) {
+        for (int i = 0; i < writers && calls < 380; i++) {
             one(6);
         }
         int papers = random.nextInt(6);
-        for (int i = 0; i < papers; i++) {
+        for (int i = 0; i < papers && calls < 500; i++) {
             one(random.nextBoolean() ? 8 : 9);
         }
         while (calls < 512 && !failed) {

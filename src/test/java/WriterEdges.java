@@ -322,6 +322,8 @@ final class WriterEdges {
             e.due(names[i] + " of the first", Check.heedBy(names[i], 10, 0, row), least[i]);
             e.due(names[i] + " of the last", Check.heedBy(names[i], 10, 15, row), greatest[i]);
         }
+        e.due("s by another is just 0", Check.heedBy("s+50", 10, 0, row), 50);
+        e.due("s by self is just 1", Check.heedBy("s+50", 10, 15, row), 51);
         for (String none : new String[] {"a", "W", "K", "j", "x", "_", "0w"}) {
             fault(none, none.length() - 1);
         }
@@ -381,6 +383,10 @@ final class WriterEdges {
         text("0?4", 0);
         text("0?4;0?5", 0);
         text("0?4;w?5;k?6;o?7", 0);
+        WhatWasSaid x = Edges.meeting(1);
+        Check.write(x, "0?4;5;6", 0, 0);
+        Check.write(x, "0?4", 0, 0);
+        e.due("nor a line of the text ahead of it on the tape", x.heed(1, 0), 0);
     }
 
     private void numbers() {

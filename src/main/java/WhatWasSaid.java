@@ -624,7 +624,7 @@ public final class WhatWasSaid {
             return n;
         }
 
-        /** The fault of the text, or below 0. */
+        /** No fault is below 0, as the first place is 0. */
         int parse() {
             at = 0;
             codeCount = 0;
@@ -725,7 +725,7 @@ public final class WhatWasSaid {
             code(value);
         }
 
-        /** The byte that comes next; below 0 at the end, and behind a fault. */
+        /** Behind a fault nothing comes next, so that each rule that is still open ends at once. */
         private int sign() {
             return fault < 0 && at < length ? bytes[at] : NONE;
         }
@@ -764,7 +764,7 @@ public final class WhatWasSaid {
             return sign >= '0' && sign <= '9';
         }
 
-        /** Which name a sign is, from 0; below 0, if it is none. */
+        /** In the order in which Reckoner sets the values. */
         static int nameOf(int sign) {
             switch (sign) {
                 case 'w': return 0;
@@ -845,7 +845,7 @@ public final class WhatWasSaid {
             return 0;
         }
 
-        /** Sets the values of the names, in the order of Tape's names. */
+        /** Once a saying, as a law may tell a name many times; in the order of Tape.nameOf. */
         private void name(Law law, int saying) {
             named[0] = meeting.part(saying, WHO);
             named[1] = meeting.part(saying, SORT);
@@ -973,7 +973,7 @@ public final class WhatWasSaid {
             paper.follow(law, meeting);
         }
 
-        /** The writer whose law would most likely leave a paper's sayings; NOT, if none would. */
+        /** Only a chance above 0 counts, so that NOT stays where no law would leave such a paper. */
         int likeliest(Paper paper) {
             int best = NOT;
             long most = 0;
@@ -1018,7 +1018,7 @@ public final class WhatWasSaid {
             return off;
         }
 
-        /** Ten times the one writer, and the other. */
+        /** The two in one number, as ask() tells them. */
         int bestPair() {
             int best = 1;
             int most = -1;
@@ -1133,7 +1133,6 @@ public final class WhatWasSaid {
             }
         }
 
-        /** Takes an entry out of one place and sets it in at another. */
         void move(int from, int to) {
             if (!hasPlace(from) || !hasPlace(to)) {
                 return;
@@ -1195,7 +1194,7 @@ public final class WhatWasSaid {
             }
         }
 
-        /** How many entries fall away when one reads the paper. */
+        /** From behind, so that what falls away moves nothing that is still to be looked at. */
         int hear(Meeting meeting, int who) {
             int before = size;
             for (int place = size - 1; place >= 0; place--) {
@@ -1211,7 +1210,6 @@ public final class WhatWasSaid {
             return before - size;
         }
 
-        /** How many entries fall away until at most n are left. */
         int shorten(int n) {
             int fallen = Math.max(0, size - n);
             for (int fall = 0; fall < fallen; fall++) {
@@ -1252,7 +1250,6 @@ public final class WhatWasSaid {
             return size;
         }
 
-        /** The number of a new paper; FULL, if there can be no more. */
         int open(int writer) {
             if (size >= MOST) {
                 return FULL;
@@ -1334,7 +1331,7 @@ public final class WhatWasSaid {
             return (inOne < nextInOne) != (inOther < nextInOther);
         }
 
-        /** The i-th saying of the order by most papers; BAD, if there is none such. */
+        /** Worked out anew each time, as papers change between calls. */
         int inOrder(int i) {
             int left = 0;
             for (int paper = 0; paper < size; paper++) {
@@ -1425,7 +1422,7 @@ public final class WhatWasSaid {
             return chance;
         }
 
-        /** The first saying of the longest row that a paper has not; below 0, if there is none. */
+        /** From within a row that the paper lacks the span is shorter, so that only firsts are found. */
         int longestGap(Paper paper) {
             int best = -1;
             int longest = 0;
@@ -1536,7 +1533,7 @@ public final class WhatWasSaid {
             return from(kindOf(actor), act, x, depth);
         }
 
-        /** The act by the body of a kind, or of the next kind above that has one. */
+        /** A kind without a body of its own leaves the act to the next kind above that has one. */
         private int from(int kind, int act, int x, int depth) {
             int at = kind;
             for (int step = 0; step < KINDS && isKind(at); step++) {
